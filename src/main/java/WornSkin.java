@@ -576,19 +576,22 @@ public final class WornSkin {
             behind = place;
             if (place >= length) {
                 kind = END;
-            } else if (isLetter(signs[place])) {
+                return;
+            }
+            int sign = signs[place];
+            if (sign >= 'a' && sign <= 'z') {
                 takeLetters();
-            } else if (isDigit(signs[place])) {
+            } else if (sign >= '0' && sign <= '9') {
                 takeDigits();
             } else {
-                kind = "()<=+-*;".indexOf((char) signs[place]) >= 0 ? SIGN : NO_TOKEN;
+                kind = "()<=+-*;".indexOf((char) sign) >= 0 ? SIGN : NO_TOKEN;
                 behind = place + 1;
             }
         }
 
         private void takeLetters() {
             name = 0;
-            while (behind < length && isLetter(signs[behind])) {
+            while (behind < length && signs[behind] >= 'a' && signs[behind] <= 'z') {
                 name = name * 32 + (signs[behind] - 'a' + 1);
                 behind++;
             }
@@ -597,19 +600,11 @@ public final class WornSkin {
 
         private void takeDigits() {
             number = 0;
-            while (behind < length && isDigit(signs[behind])) {
+            while (behind < length && signs[behind] >= '0' && signs[behind] <= '9') {
                 number = number * 10 + (signs[behind] - '0');
                 behind++;
             }
             kind = behind - place <= LONGEST_NUMBER ? NUMBER : NO_TOKEN;
-        }
-
-        private static boolean isLetter(int sign) {
-            return sign >= 'a' && sign <= 'z';
-        }
-
-        private static boolean isDigit(int sign) {
-            return sign >= '0' && sign <= '9';
         }
 
         boolean isNumber() {
@@ -692,7 +687,7 @@ public final class WornSkin {
         private static final int MINUS = -11;
         private static final int TIMES = -12;
 
-        static final int CHAIN_LEVEL = 0;
+        private static final int CHAIN_LEVEL = 0;
         private static final int TEST_LEVEL = 1;
         private static final int SUM_LEVEL = 2;
         private static final int PRODUCT_LEVEL = 3;
@@ -703,6 +698,7 @@ public final class WornSkin {
         // No step comes of less than one sign of the TAPE.
         private final int[] steps = new int[Tape.SIZE];
         private int length;
+        private boolean told;
         private final int[] stack = new int[STACK];
 
         void copyFrom(Law other) {
@@ -711,7 +707,8 @@ public final class WornSkin {
         }
 
         void setUntold() {
-            clear();
+            told = false;
+            length = 0;
             add(DEEP);
             add(2);
             add(TIMES);
@@ -728,8 +725,17 @@ public final class WornSkin {
             }
         }
 
-        void clear() {
+        /** Reads shows E ; which may be told once. */
+        void readFrom(Tape tape) {
+            if (told) {
+                tape.fail(Tape.TOLD_ALREADY);
+                return;
+            }
+            told = true;
             length = 0;
+            tape.next();
+            readLevel(tape, CHAIN_LEVEL, 0);
+            tape.takeSign(';');
         }
 
         /** Reads an E (or, by a higher level, a part of one) that lies within so many not and ( ). */
@@ -867,7 +873,6 @@ public final class WornSkin {
         final int[] textLines = new int[MOST_TEXTS];
         int damps;
         private final int[] damp = new int[MOST_DAMPS];
-        private boolean showsTold;
         private final Law law = new Law();
 
         void copyFrom(Library other) {
@@ -891,7 +896,6 @@ public final class WornSkin {
             skins = 0;
             texts = 0;
             damps = 0;
-            showsTold = false;
             law.setUntold();
             tape.rewind();
             for (int i = 0; i < Tape.SIZE && tape.isSound() && !tape.isAtEnd(); i++) {
@@ -904,7 +908,7 @@ public final class WornSkin {
                 } else if (tape.isWord("damp")) {
                     readDamp(tape);
                 } else if (tape.isWord("shows")) {
-                    readShows(tape);
+                    law.readFrom(tape);
                 } else {
                     tape.fail(Tape.MISPLACED);
                 }
@@ -996,18 +1000,6 @@ public final class WornSkin {
             if (tape.isNumber() && tape.isNumberWithin(0, MOST_DAMP)) {
                 tape.fail(Tape.TOO_MANY);
             }
-            tape.takeSign(';');
-        }
-
-        private void readShows(Tape tape) {
-            if (showsTold) {
-                tape.fail(Tape.TOLD_ALREADY);
-                return;
-            }
-            showsTold = true;
-            tape.next();
-            law.clear();
-            law.readLevel(tape, Law.CHAIN_LEVEL, 0);
             tape.takeSign(';');
         }
 

@@ -6,6 +6,7 @@ public final class FaultTest {
 
     public static void main(String[] args) {
         tokens();
+        leftovers();
         statements();
         names();
         numbers();
@@ -52,6 +53,22 @@ public final class FaultTest {
         library(1, "skin a lines 2 thick 3\n \n^");
     }
 
+    /** What an earlier, longer text left behind the end is no part of a token. */
+    private static void leftovers() {
+        WornSkin x = new WornSkin();
+        CHECK.due("a week", 0, Check.readYear(x, "week;"));
+        CHECK.due("wee of week", 1, Check.readYear(x, "wee"));
+        CHECK.due("a number too high", 4 + 16 * 5, Check.readLibrary(x, "damp 55;"));
+        CHECK.due("its first digit", 1 + 16 * 6, Check.readLibrary(x, "damp 5"));
+        CHECK.due("a sign is missing", 1 + 16 * 5, Check.readYear(x, "week "));
+        CHECK.due("a tape full of letters", 1, Check.readLibrary(x, "a".repeat(1000)));
+        CHECK.due("a tape full of digits", 1, Check.readLibrary(x, "1".repeat(1000)));
+        CHECK.due("a tape full of blanks", 0, Check.readLibrary(x, " ".repeat(1000)));
+        CHECK.due("a fault at the very end", 1 + 16 * 1000, Check.readLibrary(x, " ".repeat(996) + "skin"));
+        CHECK.due("the longest law", 0, Check.readLibrary(x, "shows " + "1+".repeat(496) + "1;"));
+        CHECK.due("a longer one is cut", 1 + 16 * 1000, Check.readLibrary(x, "shows " + "1+".repeat(497) + "1;"));
+    }
+
     private static void statements() {
         library(1, "^;");
         library(1, "^write a a 1;");
@@ -88,7 +105,7 @@ public final class FaultTest {
             year(1, "scrape ^" + word + ";");
             year(1, "write ^" + word + " a 0;");
         }
-        for (String word : new String[] {"wet", "deep", "bite", "thin", "cure", "skins", "n", "nota"}) {
+        for (String word : new String[] {"wet", "deep", "bite", "thin", "cure", "skins", "n", "nota", "z", "az"}) {
             library(0, "skin " + word + " lines 2 thick 3;");
         }
         library(3, "skin a lines 2 thick 3;skin ^a lines 2 thick 3;");
@@ -139,6 +156,7 @@ public final class FaultTest {
         library(5, texts + "^text z oath gall lines 1;");
         library(0, "damp 0 1 2 3 4 5 6 7 8 9 0 1;");
         library(5, "damp 0 1 2 3 4 5 6 7 8 9 0 1 ^2;");
+        library(5, "damp 0 1 2 3 4 5 6 7 8 9 0 1 ^0;");
         library(4, "damp 0 1 2 3 4 5 6 7 8 9 0 1 ^10;");
         library(1, "damp 0 1 2 3 4 5 6 7 8 9 0 1 ^x;");
         library(1, "damp 0 1 2 3 4 5 6 7 8 9 0 1 ^12345;");

@@ -476,6 +476,19 @@ public final class PromiseTest {
         x.write(1, 0, 0);
         x.write(2, 0, 3);
         due("19 two", 9, x.lost());
+        WornSkin y = Check.withLibrary("skin s lines 2 thick 9;text a charter soot lines 1;text b psalm soot lines 1;"
+            + "shows wet=9 or wet=0;");
+        y.write(1, 0, 1);
+        y.scrape(0);
+        y.write(0, 0, 0);
+        y.scrape(0);
+        due("19 damp 9 is tried, and damp 8 for the psalm", 0, y.lost());
+        WornSkin z = Check.withLibrary("skin s lines 2 thick 9;text a charter soot lines 1;text b psalm soot lines 1;"
+            + "shows wet=10;");
+        z.write(1, 0, 1);
+        z.write(0, 0, 0);
+        z.scrape(0);
+        due("19 wet 10 by damp 9 for a psalm alone", 1, z.lost());
     }
 
     private static void placeAndCost() {
@@ -531,6 +544,12 @@ public final class PromiseTest {
         due("22 p", 0, z.lay(0));
         due("22 q", 3, z.lay(1));
         due("22 r", -1, z.lay(2));
+        WornSkin six = Check.withLibrary("skin a lines 6 thick 3;text p oath gall lines 6;");
+        due("22 all six lines", 1, six.lay(-1));
+        due("22 all six lines", 0, six.lay(0));
+        six.write(0, 0, 0);
+        due("22 nowhere now", 0, six.lay(-1));
+        due("22 nowhere now", -1, six.lay(0));
         WornSkin e = new WornSkin();
         due("22 nothing told", 0, e.lay(-1));
         due("22 nothing told", -2, e.lay(0));

@@ -16,6 +16,7 @@ public final class RoomTest {
         WornSkin x = Check.withLibrary("skin a lines 6 thick 30;skin b lines 6 thick 30;text p charter gall lines 2;"
             + "text q psalm soot lines 1;damp 3 4 9;shows deep*2<wet+bite;");
         int[] room = roomOf(x);
+        System.out.println(room[0] + " objects and arrays, " + room[1] + " fields and elements");
         check.due("objects " + room[0], true, room[0] <= MOST_OBJECTS);
         check.due("fields and elements " + room[1], true, room[1] <= MOST_ELEMENTS);
         com.sun.management.ThreadMXBean threads =
