@@ -8,6 +8,7 @@ public final class WornSkin {
     private static final int MOST_SKINS = 3;
     private static final int MOST_TEXTS = 6;
     private static final int MOST_LINES = 6;
+    private static final int PLACES = MOST_SKINS * MOST_LINES;
     private static final int MOST_LAYERS = 9;
     private static final int MOST_DAMP = 9;
     private static final int MOST_WEEKS_AHEAD = 40;
@@ -1152,7 +1153,6 @@ public final class WornSkin {
 
     /** How it is: the week, how thick the SKINS are, and what lies on every line (line + 6 * the SKIN). */
     private static final class Shelf {
-        private static final int PLACES = MOST_SKINS * MOST_LINES;
         private static final int LAYER_BITS = 3;
 
         private final Library told;
@@ -1549,8 +1549,6 @@ public final class WornSkin {
 
     /** LAY: where the most TEXTS can be WRITTEN side by side. */
     private static final class Layout {
-        private static final int PLACES = MOST_SKINS * MOST_LINES;
-
         private final Library told;
         int most;
         final int[] places = new int[MOST_TEXTS];
