@@ -1,4 +1,4 @@
-/** The FAULTS of a LIBRARY and of a YEAR (promises 3 and 4), by kind and place. */
+/** The FAULTS of a LIBRARY and of a YEAR (promises 3 and 4), by kind and place; ^ stands ahead of the token that is wrong. */
 public final class FaultTest {
     private static final String THREE =
         "skin a lines 2 thick 3;skin b lines 6 thick 30;skin c lines 1 thick 1;";
@@ -17,20 +17,12 @@ public final class FaultTest {
         CHECK.end("FaultTest");
     }
 
-    /** The place of the fault is where the sign ^ stands; the sign itself is not fed. Without it: no fault. */
     private static void library(int kind, String marked) {
-        int at = marked.indexOf('^');
-        String text = at < 0 ? marked : marked.substring(0, at) + marked.substring(at + 1);
-        int want = at < 0 ? 0 : kind + 16 * at;
-        CHECK.due("library " + marked, want, Check.readLibrary(new WornSkin(), text));
+        CHECK.dueLibrary(kind, marked);
     }
 
     private static void year(int kind, String marked) {
-        int at = marked.indexOf('^');
-        String text = at < 0 ? marked : marked.substring(0, at) + marked.substring(at + 1);
-        int want = at < 0 ? 0 : kind + 16 * at;
-        WornSkin x = Check.withLibrary(THREE + "text t oath gall lines 2;text u psalm soot lines 1;");
-        CHECK.due("year " + marked, want, Check.readYear(x, text));
+        CHECK.dueYear(kind, THREE + "text t oath gall lines 2;text u psalm soot lines 1;", marked);
     }
 
     private static void tokens() {
