@@ -21,6 +21,7 @@ public final class AskedEdgeTest {
         costGone();
         layHowMany();
         layWhere();
+        layFull();
         bears();
         over();
         deepestAndBare();
@@ -37,6 +38,7 @@ public final class AskedEdgeTest {
         yearsLong();
         yearsNothingTold();
         marksHold();
+        marksHoldSeen();
         marksWhich();
         count();
         countFull();
@@ -80,6 +82,9 @@ public final class AskedEdgeTest {
         due("from week 1 on", 0, y.later(0, 0, 39));
         due("from week 1 on", -1, y.later(0, 0, 40));
         due("no week goes by", 1, y.count(2));
+        x.write(0, 0, 3);
+        due("what lies open", 0, x.later(0, 3, 40));
+        due("what lies open, a week ahead", -1, x.later(0, 3, -1));
 
         says("LATER; NONE: others, nothing.");
         due("nothing is there", -1, x.later(0, 4, 0));
@@ -177,6 +182,14 @@ public final class AskedEdgeTest {
         due("by damp 0", 0, scraped(ONE + "shows wet=0;damp 5;", 0).lost());
         due("by damp 9", 0, scraped(ONE + "shows wet=9;damp 5;", 0).lost());
         due("by damp 10", 1, scraped(ONE + "shows wet=10;damp 5;", 0).lost());
+        due("below damp 0", 1, scraped(ONE + "shows wet<0;damp 5;", 0).lost());
+        due("a psalm below damp 0", 1, scraped(ONE.replace("charter", "psalm") + "shows wet<1;damp 5;", 0).lost());
+        WornSkin last = Check.withLibrary("skin a lines 6 thick 9;skin b lines 6 thick 9;skin c lines 6 thick 9;"
+            + "text t charter soot lines 1;shows 0;");
+        last.write(0, 2, 5);
+        due("open in the last line of the last skin", 0, last.lost());
+        last.scrape(2);
+        due("hidden there", 1, last.lost());
         WornSkin part = scraped("skin s lines 2 thick 9;text t charter soot lines 2;text u charter soot lines 1;shows 1;", 0);
         part.write(1, 0, 0);
         due("one line of two is enough", 0, part.lost());
@@ -360,6 +373,32 @@ public final class AskedEdgeTest {
         due("no text lies on two skins", 8, bound.lay(0));
     }
 
+    /** How many of texts of so many lines can be laid on skins of so many. */
+    private static int laid(int[] skins, int... sizes) {
+        StringBuilder told = new StringBuilder();
+        for (int i = 0; i < skins.length; i++) {
+            told.append("skin s").append((char) ('a' + i)).append(" lines ").append(skins[i]).append(" thick 1;");
+        }
+        for (int i = 0; i < sizes.length; i++) {
+            told.append("text t").append((char) ('a' + i)).append(" oath gall lines ").append(sizes[i]).append(';');
+        }
+        return Check.withLibrary(told.toString()).lay(-1);
+    }
+
+    private static void layFull() {
+        says("LAY: TEXTS WRITTEN now, each once at most: the most");
+        int[] sixes = {6, 6};
+        due("no text goes on from skin to skin", 2, laid(sixes, 4, 4, 4));
+        due("two skins, full", 2, laid(sixes, 6, 6, 6));
+        due("two skins, one line too many", 2, laid(sixes, 6, 4, 3));
+        due("two skins, full by three", 3, laid(sixes, 6, 4, 2));
+        due("three skins, full by six", 6, laid(new int[] {6, 6, 6}, 1, 2, 3, 3, 4, 5));
+        due("three skins, one line too many", 5, laid(new int[] {6, 6, 6}, 2, 2, 3, 3, 4, 5));
+        due("the longest on the longer skin, behind", 4, laid(new int[] {4, 5}, 3, 2, 2, 2));
+        due("the longest on the shorter skin, behind", 3, laid(new int[] {5, 4}, 4, 3, 2));
+        due("one line too many there", 2, laid(new int[] {5, 4}, 4, 3, 3));
+    }
+
     private static void bears() {
         says("BEARS: how often a TEXT can be WRITTEN in its PLACE on a SKIN and SCRAPED, one behind the other, till one of these can't be.");
         due("30 thick by 1, nine on each of six lines", 30, bornBy("skin s lines 6 thick 30;", "charter soot lines 1"));
@@ -452,6 +491,14 @@ public final class AskedEdgeTest {
         x.scrape(0);
         x.write(0, 0, 5);
         due("two layers", 5, x.deepest(0));
+        WornSkin next = Check.withLibrary("skin a lines 6 thick 9;skin b lines 2 thick 9;skin c lines 6 thick 9;text t charter soot lines 1;");
+        next.write(0, 1, 1);
+        due("the second line", 1, next.deepest(1));
+        next.write(0, 1, 0);
+        due("the first line", 0, next.deepest(1));
+        due("lines of the next skin are none of its", 0, next.deepest(0));
+        next.write(0, 2, 5);
+        due("the last line of all", 5, next.deepest(2));
         says("BARE of a SKIN: lines without LAYERS that are no holes.");
         due("but 0, 1, 2 and 5", 0b011000, x.bare(0));
         x.write(0, 0, 3);
@@ -551,6 +598,14 @@ public final class AskedEdgeTest {
         under.write(1, 0, 1);
         due("one alone", 0, under.giveup());
         due("nothing is done", 3, under.skin(0, 3));
+        WornSkin six = Check.withLibrary("skin a lines 6 thick 9;skin b lines 6 thick 9;text k oath gall lines 1;text l oath gall lines 1;"
+            + "text m oath gall lines 1;text n oath gall lines 1;text o oath gall lines 1;text p oath gall lines 1;");
+        for (int text = 0; text < 6; text++) {
+            six.write(text, 1, text);
+        }
+        due("all six by the only one that can be", 1, six.giveup());
+        six.write(0, 0, 0);
+        due("none by the other one", 0, six.giveup());
 
         says("GIVEUP; NONE: none can be.");
         due("nothing was written", -1, Check.withLibrary(skins).giveup());
@@ -653,6 +708,14 @@ public final class AskedEdgeTest {
         due("one is left", -1, x.ask(0));
         x.see(0, 1, 9, false);
         due("none is left", -1, x.ask(0));
+        // 1 deep by damp 0 the psalm alone shows, by damp 1 the two charters.
+        WornSkin some = Check.withLibrary(four + "shows deep=1 and wet=1 or (deep=2 and bite);");
+        some.see(0, 1, 0, false);
+        due("not the psalm", 0b1011, some.who());
+        due("the first that parts these three", 11, some.ask(0));
+        some.see(0, 1, 1, true);
+        due("the charters", 0b0011, some.who());
+        due("the psalm is none of them, so 1 deep parts nothing", 20, some.ask(0));
         WornSkin gone = scraped(two + "shows bite and thin=0;", 0);
         due("one gone is 0 thick", 10, gone.ask(0));
         gone.undo();
@@ -941,6 +1004,33 @@ public final class AskedEdgeTest {
         due("what can be undone from then on", 2, x.week());
         due("what can be undone from then on", true, x.undo());
         due("and no more", false, x.undo());
+    }
+
+    private static void marksHoldSeen() {
+        says("MARKS 0 to 3 hold how it is, the YEAR, what is SEEN (nothing can be undone when one is gone back to).");
+        // By each of these the text that shows is another one than by the first.
+        seenHeld("shows bite=(thin=9);", 1, 1, 0, true);
+        seenHeld("shows bite=(deep=1);", 0, 2, 0, true);
+        seenHeld("shows bite=(wet=0);", 0, 1, 1, true);
+        seenHeld("shows bite;", 0, 1, 0, false);
+    }
+
+    private static void seenHeld(String law, int skin, int deep, int damp, boolean shows) {
+        WornSkin x = Check.withLibrary("skin s lines 1 thick 9;skin o lines 1 thick 8;text a charter soot lines 1;"
+            + "text b charter gall lines 1;" + law);
+        x.mark(0, false);
+        x.see(0, 1, 0, true);
+        due("seen by " + law, 2, x.who());
+        x.mark(1, false);
+        x.mark(0, true);
+        due("nothing seen", 3, x.who());
+        x.see(skin, deep, damp, shows);
+        due("seen otherwise by " + law, 1, x.who());
+        x.mark(2, false);
+        x.mark(1, true);
+        due("held by " + law, 2, x.who());
+        x.mark(2, true);
+        due("held otherwise by " + law, 1, x.who());
     }
 
     private static void marksWhich() {

@@ -31,6 +31,7 @@ public final class DoneEdgeTest {
         whole();
         judgedFrom();
         judgedFirst();
+        judgedWhat();
         CHECK.end("DoneEdgeTest");
     }
 
@@ -664,5 +665,34 @@ public final class DoneEdgeTest {
         due("both", 2, x.judged(2));
         Check.readYear(x, "write t a 0;write t b 0;");
         due("one, twice", 1, x.judged(2));
+    }
+
+    private static void judgedWhat() {
+        says("the first line (from 0) that can't be; the first one by which a SKIN is GONE; how many TEXTS are WHOLE at last");
+        WornSkin x = Check.withLibrary("skin a lines 6 thick 1;skin b lines 1 thick 1;skin c lines 6 thick 3;"
+            + "text one oath gall lines 1;text two charter soot lines 2;text tri charter soot lines 3;"
+            + "text four charter soot lines 4;text five charter soot lines 5;text six charter soot lines 6;");
+        Check.readYear(x, "write one a 1;third a;week;");
+        due("third: lines 0 and 3 alone", 1, x.judged(0));
+        due("so none is gone", -1, x.judged(1));
+        due("so it lies open", 1, x.judged(2));
+        Check.readYear(x, "write one a 1;scrape a;week;");
+        due("scrape: all lines", -1, x.judged(0));
+        due("so it is gone", 1, x.judged(1));
+        due("so none is whole", 0, x.judged(2));
+        Check.readYear(x, "write six a 0;write five a 0;write five c 1;write tri c 0;write one c 0;");
+        due("as many lines as each has", 1, x.judged(0));
+        due("those that could be", 3, x.judged(2));
+        Check.readYear(x, "write one b 0;write two b 0;");
+        due("two lines on one", 1, x.judged(0));
+        Check.readYear(x, "write two a 0;write two a 2;write two a 4;write one a 5;");
+        due("three of two lines", 3, x.judged(0));
+        Check.readYear(x, "write four a 0;write two a 4;write two c 0;write four c 2;");
+        due("four and two", -1, x.judged(0));
+        due("four and two", 2, x.judged(2));
+        Check.readYear(x, "write one c 5;scrape c;");
+        due("of gall, an oath: 3 thick is gone", 1, x.judged(1));
+        Check.readYear(x, "write two c 4;scrape c;write two c 4;scrape c;write two c 4;scrape c;");
+        due("by 1 each it is gone the third time", 5, x.judged(1));
     }
 }

@@ -175,6 +175,15 @@ public final class ToldEdgeTest {
         x.mark(0, false);
         x.mark(0, true);
         due("nothing else takes it", 5, x.count(11));
+        x.year();
+        Check.readLibrary(x, "damp 99999999999999999999;");
+        due("a number ends where the tape ends", 1 + 16 * 6, Check.readLibrary(x, "damp 1"));
+        Check.readYear(x, "weekweekweekweekweekweek");
+        due("a word ends where the tape ends", 1 + 16 * 4, Check.readYear(x, "week"));
+        Check.readYear(x, "                            ");
+        due("blanks end where the tape ends", 1 + 16 * 6, Check.readYear(x, "week  "));
+        due("a number ends a full tape", 1 + 16 * 1000, Check.readLibrary(x, times(994, " ") + "damp 1"));
+        due("a word ends a full tape", 1 + 16 * 1000, Check.readYear(x, times(996, " ") + "week"));
     }
 
     private static void tokensAsLong() {
@@ -518,6 +527,8 @@ public final class ToldEdgeTest {
             year(1, "third ^" + word + ";");
             sound("skin " + word + "s lines 1 thick 1;");
             sound("text x" + word + " oath gall lines 1;");
+            sound("text x" + word.substring(1) + " oath gall lines 1;");
+            sound("text " + word.substring(0, word.length() - 1) + "x oath gall lines 1;");
         }
         for (String word : new String[] {"wet", "deep", "bite", "thin", "cure", "library", "year"}) {
             sound("skin " + word + " lines 1 thick 1;hole " + word + " 0;shows wet and deep and bite and thin;");
@@ -529,6 +540,10 @@ public final class ToldEdgeTest {
         library(3, TWO + "text ^b oath gall lines 1;");
         library(3, FULL + "skin ^t lines 1 thick 1;");
         sound(TWO + "skin aa lines 1 thick 1;");
+        sound("skin b lines 1 thick 1;skin bb lines 1 thick 1;skin bbb lines 1 thick 1;");
+        sound("skin a lines 1 thick 1;skin aa lines 1 thick 1;skin aaaaaaaa lines 1 thick 1;text aaaaaaa oath gall lines 1;");
+        sound("skin z lines 1 thick 1;skin az lines 1 thick 1;skin za lines 1 thick 1;text zz oath gall lines 1;");
+        library(3, "skin aaaaaaaa lines 1 thick 1;skin aaaaaaab lines 1 thick 1;skin ^aaaaaaaa lines 1 thick 1;");
         WornSkin x = Check.withLibrary(FULL);
         due("each library for itself", 0, Check.readLibrary(x, FULL));
     }
@@ -838,6 +853,30 @@ public final class ToldEdgeTest {
             due("that one alone", false, x.mark(1, true));
             due("and be gone back to", true, x.mark(2, true));
         }
+        nothingUnder();
+    }
+
+    /** What lay on a line of an old library is not under what is written on the new one's. */
+    private static void nothingUnder() {
+        String old = "skin a lines 6 thick 9;text k oath gall lines 1;text l oath gall lines 1;text m oath gall lines 1;"
+            + "text n oath gall lines 1;text o oath gall lines 1;text p oath gall lines 6;";
+        WornSkin x = Check.withLibrary(old);
+        x.write(5, 0, 0);
+        x.scrape(0);
+        x.write(5, 0, 0);
+        due("a library", 0, Check.readLibrary(x, old));
+        due("written", true, x.write(0, 0, 0));
+        due("the lowest one", 0, x.layer(0, 0, 0));
+        due("it lies open", 0, x.read(0, 0));
+        due("one layer", 1, x.layers(0, 0));
+        due("scraped", 6, x.scrape(0));
+        due("written", true, x.write(2, 0, 0));
+        due("the second one", 2, x.layer(0, 0, 1));
+        due("as the line by itself", true, x.write(0, 0, 1) && x.same() == 0);
+        due("the year from the beginning", 0, Check.readYear(x, "write p a 0;scrape a;write p a 0;"));
+        due("is judged", 1, x.judged(2));
+        due("another year", 0, Check.readYear(x, "write k a 0;"));
+        due("is judged with nothing under it", 1, x.judged(2));
     }
 
     private static void allStays() {
